@@ -2,6 +2,7 @@ import java.util.Random;
 
 // Long runs of mixed calls, each answer compared with the document's steps done plainly.
 public final class ReferenceTest {
+    private static final int STYLES = 9;
     private static final Check check = new Check();
 
     public static void main(String[] args) {
@@ -13,11 +14,10 @@ public final class ReferenceTest {
                 mixedRun(order, length);
                 loudDecoding(order, length);
             }
+            longQuietRun(order);
         }
         check.finish();
     }
-
-    private static final int STYLES = 9;
 
     private static void encodeStyle(int order, int length, int style) {
         CelpSpeechCodec codec = new CelpSpeechCodec(order, length);
@@ -75,6 +75,30 @@ public final class ReferenceTest {
             check.due(name + " getPending", codec.getPending(), reference.pending.size());
         }
         compare(name + ", end", codec, reference);
+    }
+
+    // Many frames near the smallest pulse amplitudes, where a rounding of one step turns a choice.
+    private static void longQuietRun(int order) {
+        CelpSpeechCodec codec = new CelpSpeechCodec(order, 8);
+        ReferenceCodec reference = new ReferenceCodec(order, 8);
+        Random random = new Random(order);
+        for (int frame = 0; frame < 3000; frame++) {
+            int loudness = 2 + random.nextInt(120);
+            for (int n = 0; n < 8; n++) {
+                int sample = random.nextInt(2 * loudness) - loudness;
+                codec.putSample(sample);
+                reference.put(sample);
+            }
+            codec.encodeFrame();
+            reference.encode();
+            for (int i = 0; i < 4; i++) {
+                check.due("quiet frame " + frame + " getWord " + i, codec.getWord(i), reference.word(i));
+            }
+            for (int m = 1; m <= order; m++) {
+                check.due("quiet frame " + frame + " k" + m, codec.getRawReflection(m), reference.rawReflection(m));
+            }
+        }
+        compare("quiet run's end", codec, reference);
     }
 
     // The same strong pulses again and again at the greatest gain, until every saturation is met.
