@@ -191,29 +191,28 @@ public final class DecodeBoundaryTest {
         check.due("getFrameCount(0)", codec.getFrameCount(0), 0);
     }
 
-    // Frames of another codec are taken, those with slots too great are refused.
+    // One of two codecs alike also decodes: frames of a third codec, and frames that are refused.
     private static void encoderSideStays() {
-        for (int samples = 0; samples <= 12; samples += 4) {
-            CelpSpeechCodec codec = Check.busy(4, 12);
-            CelpSpeechCodec alone = Check.busy(4, 12);
-            CelpSpeechCodec sender = new CelpSpeechCodec(4, 12);
-            Check.putRepeated(codec, 800, samples);
-            Check.putRepeated(alone, 800, samples);
-            int[] before = Check.viewOfEncoder(codec);
-            for (int frame = 0; frame < 20; frame++) {
-                Check.putAll(sender, 900, -frame, 70 * frame, -4000, 30, 2, 8000, -700 * frame, 15, 600, -20, 5);
+        for (int order = 2; order <= 6; order++) {
+            CelpSpeechCodec codec = new CelpSpeechCodec(order, 12);
+            CelpSpeechCodec alone = new CelpSpeechCodec(order, 12);
+            CelpSpeechCodec sender = new CelpSpeechCodec(order, 12);
+            for (int time = 0; time < 120; time++) {
+                codec.putSample(time * time * 37 % 9001 - 4500);
+                alone.putSample(time * time * 37 % 9001 - 4500);
+                codec.encodeFrame();
+                alone.encodeFrame();
+                Check.putAll(sender, 900, -time, 70 * time, -4000, 30, 2, 8000, -700 * time, 15, 600, -20, 5);
                 sender.encodeFrame();
-                boolean taken = codec.decodeFrame(sender.getWord(0), sender.getWord(1), sender.getWord(2), -1);
+                boolean taken = codec.decodeFrame(sender.getWord(0), sender.getWord(1), sender.getWord(2),
+                    sender.getWord(3));
                 check.due("frame of another codec", taken, true);
-                check.same("encoder side after a frame", Check.viewOfEncoder(codec), before);
-                check.due("all slots 7", codec.decodeFrame(frame, -1, -1, -1), false);
-                check.same("encoder side after a refused frame", Check.viewOfEncoder(codec), before);
+                check.same("encoder side after a frame", Check.viewOfEncoder(codec), Check.viewOfEncoder(alone));
+                check.due("all slots 7", codec.decodeFrame(time, -1, -1, -1), false);
+                check.same("encoder side after a refused frame", Check.viewOfEncoder(codec),
+                    Check.viewOfEncoder(alone));
             }
-            Check.putRepeated(codec, -800, 12);
-            Check.putRepeated(alone, -800, 12);
-            codec.encodeFrame();
-            alone.encodeFrame();
-            check.same("encoding goes on", Check.viewOfEncoder(codec), Check.viewOfEncoder(alone));
+            check.due("frames encoded", codec.getFrameCount(0), 10);
         }
     }
 

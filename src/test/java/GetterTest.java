@@ -83,7 +83,7 @@ public final class GetterTest {
     }
 
     private static void wrongArguments() {
-        CelpSpeechCodec codec = busyCodec(3, 12);
+        CelpSpeechCodec codec = Check.busy(3, 12);
         int[] before = Check.viewOfAll(codec);
         for (int far : FAR) {
             for (int side = 0; side < 2; side++) {
@@ -115,7 +115,7 @@ public final class GetterTest {
     private static void everythingInsideTheRangesIsShown() {
         for (int order = 2; order <= 6; order++) {
             for (int length = 8; length <= 32; length += 4) {
-                CelpSpeechCodec codec = busyCodec(order, length);
+                CelpSpeechCodec codec = Check.busy(order, length);
                 for (int side = 0; side < 2; side++) {
                     edgesOfOneSide(codec, side);
                 }
@@ -161,20 +161,5 @@ public final class GetterTest {
             check.due("getFrameCount(1) after two frames", codec.getFrameCount(1), 2 * frame);
             check.due("getFrameCount(0) after two decoded frames", codec.getFrameCount(0), frame);
         }
-    }
-
-    // Both sides hold several frames, and different ones.
-    private static CelpSpeechCodec busyCodec(int order, int length) {
-        CelpSpeechCodec codec = new CelpSpeechCodec(order, length);
-        for (int frame = 0; frame < 9; frame++) {
-            for (int n = 0; n < length; n++) {
-                codec.putSample((n * 1237 + frame * 771) % 5003 - 2500);
-            }
-            codec.encodeFrame();
-            if (frame != 4) {
-                Check.decodeOwnWords(codec);
-            }
-        }
-        return codec;
     }
 }

@@ -1,5 +1,7 @@
 import java.util.ArrayList;
 import java.util.List;
+import java.util.Set;
+import java.util.TreeSet;
 
 // The document's steps word by word, with no care for speed, to compare the class with.
 // Sums are made with Math.addExact and its like, so a sum that leaves 64 bits is a loud error.
@@ -8,6 +10,9 @@ final class ReferenceCodec {
         3277, 9011, 14746, 19661, 23757, 27034, 29491, 31130};
     static final int[] AG = {0, 37, 74, 111, 148, 185, 222, 259};
     static final int[] FG = {0, 16, 23, 32, 45, 64, 91, 128, 181, 256, 362, 512, 724, 1024, 1448, 2048};
+
+    // The boundary cases that any codec of this class has met, for a test to see that its runs reach them.
+    static final Set<String> MET = new TreeSet<>();
 
     static final class Side {
         int[] memory;
@@ -62,12 +67,12 @@ final class ReferenceCodec {
         int[] copy = side.memory.clone();
         int[] x = new int[length];
         for (int n = 0; n < length; n++) {
-            x[n] = sat16(pending.get(n) - lattice(c, copy, 0));
+            x[n] = cut("E4", "x", pending.get(n) - lattice("E4", c, copy, 0));
         }
         int[] zero = new int[order];
         int[] h = new int[length];
         for (int n = 0; n < length; n++) {
-            h[n] = lattice(c, zero, n == 0 ? 4096 : 0);
+            h[n] = lattice("E5", c, zero, n == 0 ? 4096 : 0);
         }
         int[] x2 = adaptive(side, x, h, kinds);
         fixed(x2, h, kinds);
@@ -150,6 +155,7 @@ final class ReferenceCodec {
         }
         int[] k = new int[order + 1];
         if (big[0] == 0) {
+            MET.add("E2 R[0] == 0");
             return k;
         }
         long den = big[0] + Math.floorDiv(big[0], 128L) + 1;
@@ -161,6 +167,7 @@ final class ReferenceCodec {
         long energy = r[0];
         for (int m = 1; m <= order; m++) {
             if (energy <= 0) {
+                MET.add("E2 E <= 0");
                 continue;
             }
             long acc = Math.multiplyExact(r[m], 32768L);
@@ -168,6 +175,9 @@ final class ReferenceCodec {
                 acc = Math.addExact(acc, Math.multiplyExact(a[j], r[m - j]));
             }
             long km = Math.max(-32767L, Math.min(32767L, -(acc / energy)));
+            if (km != -(acc / energy)) {
+                MET.add("E2 km too " + (km > 0 ? "large" : "small"));
+            }
             long[] next = a.clone();
             for (int j = 1; j <= m - 1; j++) {
                 next[j] = a[j] + Math.floorDiv(Math.multiplyExact(km, a[m - j]) + 16384L, 32768L);
@@ -183,6 +193,9 @@ final class ReferenceCodec {
     private static int quantise(int k) {
         int best = 15;
         for (int i = 15; i >= 0; i--) {
+            if (i < 15 && Math.abs(k - KQ[i]) == Math.abs(k - KQ[best])) {
+                MET.add("E3 tie at " + k);
+            }
             if (Math.abs(k - KQ[i]) <= Math.abs(k - KQ[best])) {
                 best = i;
             }
@@ -204,9 +217,15 @@ final class ReferenceCodec {
                 for (int j = 0; j <= n; j++) {
                     sum = Math.addExact(sum, (long) v[j] * h[n - j]);
                 }
-                y[n] = sat16(Math.floorDiv(sum + 2048L, 4096L));
+                if (sum != (int) sum) {
+                    MET.add("E6 sum past 32 bits");
+                }
+                y[n] = cut("E6", "y", Math.floorDiv(sum + 2048L, 4096L));
                 long d = 256L * x[n] - (long) AG[ga] * y[n];
                 error = Math.addExact(error, Math.multiplyExact(d, d));
+            }
+            if (error == least && ga > 0 && kinds[1] > 0) {
+                MET.add("E6 tie of lags");
             }
             if (least < 0 || error < least) {
                 least = error;
@@ -217,7 +236,7 @@ final class ReferenceCodec {
         }
         int[] x2 = new int[length];
         for (int n = 0; n < length; n++) {
-            x2[n] = sat16(x[n] - Math.floorDiv(AG[kinds[1]] * chosen[n] + 128, 256));
+            x2[n] = cut("E7", "x2", x[n] - Math.floorDiv(AG[kinds[1]] * chosen[n] + 128, 256));
         }
         return x2;
     }
@@ -231,6 +250,9 @@ final class ReferenceCodec {
                 kinds[7 + t] = candidate / 16 % 2;
                 int gi = candidate % 16;
                 long error = fixedError(x2, h, kinds, t, gi);
+                if (error == least && gi > 0 && best[2] > 0) {
+                    MET.add("E8 tie of pulses");
+                }
                 if (least < 0 || error < least) {
                     least = error;
                     best = new int[] {kinds[3 + t], kinds[7 + t], gi};
@@ -251,6 +273,9 @@ final class ReferenceCodec {
                 if (position <= n) {
                     z += (kinds[7 + t] == 0 ? 1 : -1) * h[n - position];
                 }
+            }
+            if (z != sat16(z)) {
+                MET.add("E8 z too " + (z > 0 ? "large" : "small") + " for 16 bits");
             }
             long d = 4096L * x2[n] - (long) FG[gi] * z;
             error = Math.addExact(error, Math.multiplyExact(d, d));
@@ -273,26 +298,26 @@ final class ReferenceCodec {
         for (int n = 0; n < length; n++) {
             int track = n % 4;
             int pulse = side.kinds[3 + track] != n / 4 ? 0 : side.kinds[7 + track] == 0 ? 1 : -1;
-            u[n] = sat16(Math.floorDiv(AG[side.kinds[1]] * v[n] + 128, 256) + FG[side.kinds[2]] * pulse);
+            u[n] = cut("D3", "u", Math.floorDiv(AG[side.kinds[1]] * v[n] + 128, 256) + FG[side.kinds[2]] * pulse);
         }
         int[] c = new int[order + 1];
         for (int m = 1; m <= order; m++) {
             c[m] = KQ[side.kinds[10 + m]];
         }
         for (int n = 0; n < length; n++) {
-            side.output[n] = lattice(c, side.memory, u[n]);
+            side.output[n] = lattice("D4", c, side.memory, u[n]);
             side.pastExcitation.add(u[n]);
         }
         side.frames++;
     }
 
-    private int lattice(int[] c, int[] b, int e) {
+    private int lattice(String step, int[] c, int[] b, int e) {
         int[] old = b.clone();
         int f = e;
         for (int j = order; j >= 1; j--) {
-            f = sat16(f - Math.floorDiv(c[j] * old[j - 1] + 16384, 32768));
+            f = cut(step, "f", f - Math.floorDiv(c[j] * old[j - 1] + 16384, 32768));
             if (j < order) {
-                b[j] = sat16(old[j - 1] + Math.floorDiv(c[j] * f + 16384, 32768));
+                b[j] = cut(step, "b", old[j - 1] + Math.floorDiv(c[j] * f + 16384, 32768));
             }
         }
         b[0] = f;
@@ -329,6 +354,16 @@ final class ReferenceCodec {
         int value = Integer.parseInt(bits.subSequence(at[0], at[0] + width).toString(), 2);
         at[0] += width;
         return value;
+    }
+
+    private static int cut(String step, String name, long v) {
+        if (v > 32767) {
+            MET.add(step + " " + name + " too large");
+        }
+        if (v < -32768) {
+            MET.add(step + " " + name + " too small");
+        }
+        return sat16(v);
     }
 
     private static int sat16(long v) {

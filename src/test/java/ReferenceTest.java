@@ -3,6 +3,12 @@ import java.util.Random;
 // Long runs of mixed calls, each answer compared with the document's steps done plainly.
 public final class ReferenceTest {
     private static final int STYLES = 9;
+    private static final String[] BOUNDARY_CASES = {"E2 R[0] == 0", "E2 E <= 0", "E2 km too large", "E2 km too small",
+        "E3 tie at 0", "E3 tie at 6144", "E3 tie at -6144", "E4 f too large", "E4 f too small", "E4 b too large",
+        "E4 b too small", "E4 x too large", "E4 x too small", "E5 f too large", "E5 f too small", "E5 b too large",
+        "E5 b too small", "E6 y too large", "E6 y too small", "E6 tie of lags", "E6 sum past 32 bits", "E7 x2 too large",
+        "E7 x2 too small", "E8 z too large for 16 bits", "E8 z too small for 16 bits", "E8 tie of pulses",
+        "D3 u too large", "D3 u too small", "D4 f too large", "D4 f too small", "D4 b too large", "D4 b too small"};
     private static final Check check = new Check();
 
     public static void main(String[] args) {
@@ -16,6 +22,11 @@ public final class ReferenceTest {
             }
             longQuietRun(order);
         }
+        for (int run = 0; run < 1500; run++) {
+            swellingRun(run);
+        }
+        rareRuns();
+        boundaryCasesWereMet();
         check.finish();
     }
 
@@ -99,6 +110,64 @@ public final class ReferenceTest {
             }
         }
         compare("quiet run's end", codec, reference);
+    }
+
+    // Frames that swell and fall away are foretold so well that E comes near 0 and the filters ring.
+    private static void swellingRun(int run) {
+        Random random = new Random(run);
+        int order = 4 + random.nextInt(3);
+        int length = 8 + 4 * random.nextInt(7);
+        CelpSpeechCodec codec = new CelpSpeechCodec(order, length);
+        ReferenceCodec reference = new ReferenceCodec(order, length);
+        for (int frame = 0; frame < 3; frame++) {
+            double tone = random.nextInt(3) == 0 ? random.nextInt(2) * Math.PI : random.nextDouble() * Math.PI;
+            int loudness = random.nextBoolean() ? 32767 : 1 + random.nextInt(32767);
+            double power = 1 + random.nextInt(6);
+            for (int n = 0; n < length; n++) {
+                double swell = Math.pow(Math.sin(Math.PI * (n + 1) / (length + 1)), power);
+                int sample = (int) (loudness * swell * Math.cos(tone * n));
+                codec.putSample(sample);
+                reference.put(sample);
+            }
+            check.due("encodeFrame", codec.encodeFrame(), reference.encode());
+            compare("swelling run " + run + ", frame " + frame, codec, reference);
+        }
+    }
+
+    // Frames for the cases that are too rare to meet by chance.
+    private static void rareRuns() {
+        int[] loud = {0, 32767, -32767, 0, 0, -32767, -32767, 0, 0, 32767, -32767, -32767, 32767, 32767, 0, 0};
+        int[] smooth = {203, -1524, 4529, -8849, 13250, -16149, 16337, -13548, 8612, -3108, -1311, 3609, -3727, 2473,
+            -1002, 155};
+        givenRun(5, loud, loud, loud, loud, loud, loud, loud, loud, smooth, loud, smooth);
+        givenRun(5,
+            new int[] {69, -501, 1293, -1873, 1382, 704, -4073, 7576, -9808, 9887, -7946, 4999, -2300, 640, -36, -18},
+            new int[] {40, 295, 799, 1294, 1338, 583, -956, -2836, -4375, -5003, -4552, -3325, -1894, -778, -189, -14},
+            new int[] {203, 731, -2633, -9978, -6541, 14660, 28685, 9983, -22366, -28100, -5216, 12547, 9377, 637,
+                -1250, -183});
+        int[] far = new int[32];
+        far[0] = -2000;
+        far[16] = 2000;
+        givenRun(2, far, far, far);
+    }
+
+    private static void givenRun(int order, int[]... frames) {
+        CelpSpeechCodec codec = new CelpSpeechCodec(order, frames[0].length);
+        ReferenceCodec reference = new ReferenceCodec(order, frames[0].length);
+        for (int[] frame : frames) {
+            for (int sample : frame) {
+                codec.putSample(sample);
+                reference.put(sample);
+            }
+            check.due("encodeFrame", codec.encodeFrame(), reference.encode());
+            compare("given run of order " + order, codec, reference);
+        }
+    }
+
+    private static void boundaryCasesWereMet() {
+        for (String name : BOUNDARY_CASES) {
+            check.due("the runs met: " + name, ReferenceCodec.MET.contains(name), true);
+        }
     }
 
     // The same strong pulses again and again at the greatest gain, until every saturation is met.

@@ -69,13 +69,14 @@ public final class SearchBoundaryTest {
         check.excitation("last gain", codec, 0, 4120, 24, 2072, 0, 0, 0, -2048, -2048);
     }
 
-    // Lag 5 in a frame of 8: the last three samples of v are the first three again.
+    // Lag 6 in a frame of 8: the last two samples of v are the first two again.
     private static void shortLag() {
-        CelpSpeechCodec codec = twoLagsAlike();
-        check.due("lag index", codec.getField(0, 0), 1);
-        check.due("ga", codec.getField(0, 1), 7);
-        check.excitation("lag 5", codec, 0, 0, 0, 0, 4120, 24, 2048, 2048, 0);
-        check.outputs("lag 5", codec, 0, 407, 2309, 2297, 462, 4391, 441, 479, 87);
+        CelpSpeechCodec codec = Check.encoded(2, new int[] {2, -84, 1551, -10828, 28606, -28606, 10828, -1551},
+            new int[] {28190, -31039, 32570, -32570, 31039, -28190, 24398, -20124});
+        check.due("lag index", codec.getField(0, 0), 2);
+        check.frame("lag 6", codec, Check.words(0xe917, 0x0101, 0xf000, 0), 29674, 7159);
+        check.excitation("lag 6", codec, 0, -2072, 2072, 0, 0, -2048, 4120, -4120, 4120);
+        check.outputs("lag 6", codec, 0, 4403, -8824, 13035, -14578, 13143, -11073, 11164, -11838);
     }
 
     private static void filteredTooLarge() {
@@ -131,15 +132,13 @@ public final class SearchBoundaryTest {
         }
     }
 
-    private static CelpSpeechCodec twoLagsAlike() {
-        return Check.encoded(2, new int[] {0, 25700, 0, 0, 0, 0, 0, 25700}, new int[] {0, 24300, 0, 0, 24300, 0, 0, 0});
-    }
-
     // Lag index 7 at ga 7 has the same error as lag index 1 at ga 7.
     private static void twoLagsTie() {
-        CelpSpeechCodec codec = twoLagsAlike();
-        check.frame("two lags alike", codec, Check.words(0x770f, 0x2001, 0xf000, 0), 0, 0);
+        CelpSpeechCodec codec = Check.encoded(2, new int[] {0, 25700, 0, 0, 0, 0, 0, 25700},
+            new int[] {0, 24300, 0, 0, 24300, 0, 0, 0});
         check.due("lag index", codec.getField(0, 0), 1);
+        check.frame("two lags alike", codec, Check.words(0x770f, 0x2001, 0xf000, 0), 0, 0);
+        check.excitation("two lags alike", codec, 0, 0, 0, 0, 4120, 24, 2048, 2048, 0);
     }
 
     private static void chosenLagIsTakenAway() {
@@ -343,24 +342,24 @@ public final class SearchBoundaryTest {
         check.due("k2 of the new samples alone", codec.getRawReflection(2), 10922);
     }
 
+    // One of two codecs alike also encodes, before the first decoded frame and between the others.
     private static void decoderSideStays() {
-        for (int decoded = 0; decoded < 2; decoded++) {
-            CelpSpeechCodec codec = new CelpSpeechCodec(6, 32);
-            CelpSpeechCodec alone = new CelpSpeechCodec(6, 32);
-            for (int frame = 0; frame < decoded; frame++) {
-                codec.decodeFrame(0x1234, 0x5678, 0x9abc, 0xdef0);
-                alone.decodeFrame(0x1234, 0x5678, 0x9abc, 0xdef0);
-            }
-            for (int frame = 0; frame < 4; frame++) {
-                for (int n = 0; n < 32; n++) {
-                    codec.putSample((n % 9) * 1500 - 6000);
+        for (int order = 2; order <= 6; order++) {
+            CelpSpeechCodec codec = new CelpSpeechCodec(order, 16);
+            CelpSpeechCodec alone = new CelpSpeechCodec(order, 16);
+            CelpSpeechCodec sender = new CelpSpeechCodec(order, 16);
+            for (int frame = 0; frame < 20; frame++) {
+                for (int n = 0; n < 16; n++) {
+                    codec.putSample((n * n * 331 + frame * 977) % 16001 - 8000);
+                    sender.putSample((n * 2003 + frame * 317) % 9001 - 4500);
                 }
-                codec.encodeFrame();
-                check.same("decoder side", Check.viewOfSide(codec, 1), Check.viewOfSide(alone, 1));
+                check.due("encodeFrame()", codec.encodeFrame(), true);
+                check.same("decoder side after a frame", Check.viewOfSide(codec, 1), Check.viewOfSide(alone, 1));
+                sender.encodeFrame();
+                codec.decodeFrame(sender.getWord(0), sender.getWord(1), sender.getWord(2), sender.getWord(3));
+                alone.decodeFrame(sender.getWord(0), sender.getWord(1), sender.getWord(2), sender.getWord(3));
+                check.same("decoding goes on", Check.viewOfSide(codec, 1), Check.viewOfSide(alone, 1));
             }
-            codec.decodeFrame(0xfedc, 0xba98, 0x7654, 0x3210);
-            alone.decodeFrame(0xfedc, 0xba98, 0x7654, 0x3210);
-            check.same("decoding goes on", Check.viewOfSide(codec, 1), Check.viewOfSide(alone, 1));
         }
     }
 
