@@ -225,6 +225,9 @@ public final class AnalysisBoundaryTest {
         check.frame("a[1] below 0", below, Check.words(0x7d70, 0x0011, 0x3f00, 0), -1714, 26083, -1172);
         CelpSpeechCodec half = Check.encoded(3, new int[] {0, 0, 32000, 32000, 32000, 32000, 32000, 32000});
         check.frame("a[1] with its half", half, Check.words(0x2880, 0x0200, 0x0f00, 0), -27307, 2980, 3277);
+        CelpSpeechCodec energy = Check.encoded(4,
+            new int[] {179, 0, -4212, 7, 14672, -29, -25690, 56, 28504, -65, -20710, 45, 8828, -15, -1361, 0});
+        check.frame("E just below a whole number", energy, Check.words(0x8e8d, 0x0020, 0x11f0, 0), 8, 28962, 1, 26301);
     }
 
     // The five values that lie in the middle between two neighbours of the table.
@@ -273,6 +276,12 @@ public final class AnalysisBoundaryTest {
             new int[] {264, -450, -5018, 6964, 9316, -17409, -3050, 15732, -3252, -4820, 1357, 140},
             new int[] {449, 3278, 9439, 17769, 25497, 29658, 28623, 22907, 14837, 7305, 2341, 294});
         check.frame("ringing", codec, Check.words(0x0e1f, 0x2b41, 0x21a0, 0), -31037, 29752, -28911, 30638);
+        CelpSpeechCodec limit = Check.encoded(4,
+            new int[] {203, 1412, 3214, 3160, -1592, -11523, -23355, -31533, -31757, -23928, -12205, -2148, 2838, 3093,
+                1390, 203},
+            new int[] {203, 1544, 4778, 10007, 16619, 23431, 29025, 32152, 32092, 28862, 23212, 16402, 9840, 4680,
+                1507, 197});
+        check.frame("to 32767", limit, Check.words(0x0f0f, 0x0046, 0x47e0, 0), -31774, 31058, -31504, 32767);
     }
 
     private static void ringingForwardTooSmall() {
@@ -280,6 +289,12 @@ public final class AnalysisBoundaryTest {
             new int[] {449, -2159, -1312, 15290, -25774, 13682, 12874, -25563, 15561, -1573, -2090, 448},
             new int[] {10, -74, 215, -406, 582, -677, 654, -523, 339, -166, 53, -6});
         check.frame("ringing", codec, Check.words(0xfeef, 0x3f01, 0x42a0, 0), 31033, 29753, 28939, 30468);
+        CelpSpeechCodec limit = Check.encoded(4,
+            new int[] {200, 1355, 2749, 1458, -5262, -16638, -27508, -31407, -25361, -12363, 692, 7934, 8199, 4682,
+                1428, 135},
+            new int[] {203, -1533, 4645, -9386, 14799, -19461, 22029, -21752, 18754, -13961, 8725, -4301, 1420, -110,
+                -147, 43});
+        check.frame("to -32768", limit, Check.words(0xffff, 0x6576, 0x6690, 0), 31488, 30591, 31172, 32767);
     }
 
     private static void ringingBackwardTooLarge() {
@@ -289,6 +304,14 @@ public final class AnalysisBoundaryTest {
             new int[] {203, 731, -2633, -9978, -6541, 14660, 28685, 9983, -22366, -28100, -5216, 12547, 9377, 637,
                 -1250, -183});
         check.frame("ringing", codec, Check.words(0x5e5d, 0x5070, 0x233f, 0), -15054, 28995, -14377, 26348, -13542);
+        CelpSpeechCodec limit = Check.encoded(5,
+            new int[] {203, 200, -4619, -3815, 14444, 14244, -20700, -25569, 16327, 26867, -6238, -16492, 82, 4744,
+                385, -188},
+            new int[] {203, -1519, 4474, -8596, 12529, -14631, 13776, -9941, 4276, 1375, -5288, 6587, -5545, 3315,
+                -1252, 183},
+            new int[] {145, -57, -3412, 1119, 11692, -4344, -19911, 8281, 21229, -9456, -14630, 6480, 5830, -2150,
+                -826, 102});
+        check.frame("to 32767", limit, Check.words(0x8e8d, 0x8570, 0x011f, 0), 1654, 28961, 1583, 26295, 1520);
     }
 
     private static void ringingBackwardTooSmall() {
@@ -298,6 +321,13 @@ public final class AnalysisBoundaryTest {
             new int[] {2, 2, -67, -45, 259, 212, -523, -536, 715, 932, -710, -1226, 501, 1264, -204, -1023, -22, 628,
                 99, -266, -64, 59, 12, -2});
         check.frame("ringing", codec, Check.words(0x7f7e, 0x7877, 0x4a0f, 0), -3220, 30951, -3142, 29599, -2892);
+        CelpSpeechCodec limit = Check.encoded(6,
+            new int[] {108, -748, 1585, -967, -3069, 10907, -20120, 26185, -24981, 15519, -963, -12894, 20816, -20876,
+                15081, -7608, 2072, 284, -456, 93},
+            new int[] {2193, -993, -5715, 5299, 6027, -10529, -2329, 13684, -3945, -12810, 9905, 8086, -12784, -1733,
+                11454, -3205, -7036, 4528, 2272, -2081});
+        check.frame("to -32768", limit, Check.words(0x9f9e, 0x8b6f, 0x0102, 0xe000),
+            7418, 31448, 6893, 29042, 1464, 17342);
     }
 
     private static void memoryIsCopied() {
@@ -320,12 +350,18 @@ public final class AnalysisBoundaryTest {
         CelpSpeechCodec codec = Check.encoded(6, new int[] {1198, 7895, 18853, 26618, 25095, 15762, 5811, 766});
         check.frame("impulse", codec, Check.words(0x1d3c, 0x3c00, 0x0023, 0xe000),
             -29226, 26683, -24777, 23163, -21802, 23367);
+        CelpSpeechCodec limit = Check.encoded(5,
+            new int[] {372, 2512, 5498, 5391, -864, -11366, -19882, -21075, -15117, -7035, -1734, -105});
+        check.frame("to 32767", limit, Check.words(0x2d2d, 0x2003, 0x315d, 0), -28180, 27857, -25938, 25708, -26807);
     }
 
     private static void impulseForwardTooSmall() {
         CelpSpeechCodec codec = Check.encoded(6, new int[] {436, -2887, 6998, -10136, 9922, -6561, 2590, -374});
         check.frame("impulse", codec, Check.words(0xedcc, 0xcf00, 0x0103, 0xb000),
             29312, 26849, 25034, 23620, 23207, 30656);
+        CelpSpeechCodec limit = Check.encoded(4, new int[] {203, -1544, 4775, -9997, 16588, -23364, 28905, -31972,
+            31857, -28594, 22945, -16174, 9677, -4589, 1473, -192});
+        check.frame("to -32768", limit, Check.words(0xffff, 0x0021, 0x67e0, 0), 31772, 31030, 30814, 32767);
     }
 
     private static void impulseBackwardTooLarge() {
@@ -334,6 +370,11 @@ public final class AnalysisBoundaryTest {
             -2125, -649, 225, 33});
         check.frame("impulse", codec, Check.words(0x7f7f, 0x7f00, 0x02cd, 0xf000),
             -4904, 31411, -4827, 30419, -4813, 30317);
+        CelpSpeechCodec limit = Check.encoded(6, new int[] {15, 7, -396, -169, 1628, 835, -3710, -2301, 6101, 4512,
+            -7971, -6964, 8620, 8866, -7822, -9502, 5923, 8590, -3643, -6450, 1709, 3856, -527, -1665, 63, 399, 6,
+            -15});
+        check.frame("to 32767", limit, Check.words(0x7f7f, 0x7f00, 0x2c30, 0xb000),
+            -2025, 31411, -1975, 30435, -1682, 30492);
     }
 
     private static void impulseBackwardTooSmall() {
@@ -342,5 +383,10 @@ public final class AnalysisBoundaryTest {
             -2414, -242, 304, 19});
         check.frame("impulse", codec, Check.words(0x7f7f, 0x7f00, 0x0413, 0xd000),
             -4359, 31411, -4287, 30429, -4165, 30412);
+        CelpSpeechCodec limit = Check.encoded(6, new int[] {39, 42, -984, -928, 3677, 4402, -6964, -11380, 8165, 20437,
+            -5063, -28052, -2152, 30611, 10581, -26760, -16304, 18338, 16873, -9185, -12788, 2705, 6905, 24, -2302,
+            -282, 285, 20});
+        check.frame("to -32768", limit, Check.words(0x7f7f, 0x7e00, 0x0413, 0xd000),
+            -4422, 31410, -4337, 30374, -3863, 28991);
     }
 }
