@@ -16,6 +16,7 @@ public final class SearchBoundaryTest {
         check.sentence("7 E6: Ea (long)", SearchBoundaryTest::adaptiveErrorIsWide);
         check.sentence("7 E6: The first candidate with the least Ea: an empty history", SearchBoundaryTest::allLagsTie);
         check.sentence("7 E6: The first candidate with the least Ea: two lags alike", SearchBoundaryTest::twoLagsTie);
+        check.sentence("7 E6: For li (outer) and ga (inner)", SearchBoundaryTest::lagGoesBeforeGain);
         check.sentence("7 E7: With y of the chosen lag", SearchBoundaryTest::chosenLagIsTakenAway);
         check.sentence("7 E7: x2[n] = sat16: too large", SearchBoundaryTest::secondTargetTooLarge);
         check.sentence("7 E7: x2[n] = sat16: too small", SearchBoundaryTest::secondTargetTooSmall);
@@ -31,6 +32,8 @@ public final class SearchBoundaryTest {
         check.sentence("7 E8: The first candidate with the least Ef: both signs alike", SearchBoundaryTest::signsTie);
         check.sentence("7 E8: The first candidate with the least Ef: two gains alike", SearchBoundaryTest::gainsTie);
         check.sentence("7 E8: Candidates run with p outermost, then sign", SearchBoundaryTest::slotGoesBeforeSign);
+        check.sentence("7 E8: Candidates run with p outermost, gi after it", SearchBoundaryTest::slotGoesBeforeGain);
+        check.sentence("7 E8: Candidates run with sign before gi", SearchBoundaryTest::signGoesBeforeGain);
         check.sentence("7 E8: The gi chosen at track 3 becomes gf", SearchBoundaryTest::lastTrackGivesTheGain);
         check.sentence("7 E9: words past B bits are 0", SearchBoundaryTest::noBitsPastTheFrame);
         check.sentence("7 E11: cnt becomes 0", SearchBoundaryTest::pendingBecomesZero);
@@ -139,6 +142,21 @@ public final class SearchBoundaryTest {
         check.due("lag index", codec.getField(0, 0), 1);
         check.frame("two lags alike", codec, Check.words(0x770f, 0x2001, 0xf000, 0), 0, 0);
         check.excitation("two lags alike", codec, 0, 0, 0, 0, 4120, 24, 2048, 2048, 0);
+    }
+
+    // The frame before last has the same pulses as the last one, twice as strong: lag 8 at ga 4 ties
+    // with lag 16 at ga 2, and comes first.
+    private static void lagGoesBeforeGain() {
+        CelpSpeechCodec codec = Check.encoded(2, new int[] {-512, 473, -895, 317, -714, 208, -575, -386},
+            new int[] {-61, 591, -1125, 1081, -785, 452, -190, -423},
+            new int[] {86, 209, -366, 221, -108, 47, -23, -212});
+        check.excitation("the past", codec, 0, -222, 0, 0, 0, 0, -222, 222, -222, -444, 0, 0, 0, 0, -444, 444, -444);
+        Check.putAll(codec, -280, -5, -73, -75, -45, -14, 6, -181);
+        codec.encodeFrame();
+        check.due("lag index", codec.getField(0, 0), 4);
+        check.due("ga", codec.getField(0, 1), 4);
+        check.frame("lag before gain", codec, Check.words(0x7624, 0x1101, 0x5000, 0), -2653, -7052);
+        check.excitation("lag before gain", codec, 0, -128, 0, 0, 0, -64, -64, 64, -192);
     }
 
     private static void chosenLagIsTakenAway() {
@@ -275,6 +293,26 @@ public final class SearchBoundaryTest {
         check.due("slot of track 0", codec.getField(0, 3), 0);
         check.due("sign of track 0", codec.getField(0, 7), 1);
         check.frame("slot before sign", codec, Check.words(0x7700, 0x1066, 0xb000, 0), 0, 0);
+    }
+
+    // At track 3, slot 0 at gi 11 ties with slot 1 at gi 9; then slot 0 at gi 15 with slot 1 at gi 13.
+    private static void slotGoesBeforeGain() {
+        CelpSpeechCodec plus = Check.encoded(2, new int[] {-288, 459, -130, -150, 497, -374, 41, 340});
+        check.due("slot of track 3", plus.getField(0, 6), 0);
+        check.due("gf", plus.getField(0, 2), 11);
+        check.frame("slot before gain", plus, Check.words(0xab00, 0x2000, 0xb000, 0), 16993, 19909);
+        CelpSpeechCodec minus = Check.encoded(2, new int[] {1042, -786, -1942, 76, -1970, 2046, -1959, 1654});
+        check.due("slot of track 3", minus.getField(0, 6), 0);
+        check.due("gf", minus.getField(0, 2), 15);
+        check.frame("slot before gain", minus, Check.words(0xb600, 0x3211, 0xf000, 0), 17700, -7520);
+    }
+
+    // At track 3, sign 0 at gi 11 ties with sign 1 at gi 9 in the same slot.
+    private static void signGoesBeforeGain() {
+        CelpSpeechCodec codec = Check.encoded(2, new int[] {-182, -112, 398, -311, 441, -993, 762, -620});
+        check.due("sign of track 3", codec.getField(0, 10), 0);
+        check.due("gf", codec.getField(0, 2), 11);
+        check.frame("sign before gain", codec, Check.words(0xd800, 0x2300, 0xb000, 0), 26148, 5876);
     }
 
     private static void lastTrackGivesTheGain() {
